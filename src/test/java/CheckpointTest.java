@@ -122,7 +122,7 @@ public final class CheckpointTest {
         C.same("it is owed no more", net.message(1, 0), -1);
         Kit.restart(net, 2);
         Kit.seal(net, 2);
-        C.same("but by the sealed copy it is", net.message(1, 0), -1);
+        C.same("nor by what is sealed now", net.message(1, 0), -1);
         AgentNet first = arrived();
         Kit.seal(first, 2);
         Kit.restart(first, 2);
@@ -171,7 +171,7 @@ public final class CheckpointTest {
         net.write(0, 9);
         C.same("the receipt for two hops", net.message(0, 2), 2);
         net.tick(0);
-        // at host 2: the copy that is begun now owes nothing any more, its memory will
+        // at host 2 what was sealed, and so the copy that is begun now, owes the receipt for one hop
         Kit.restart(net, 2);
         net.checkpoint(2);
         net.net(1, 0);
