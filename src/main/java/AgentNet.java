@@ -254,6 +254,7 @@ public final class AgentNet {
 
     private int round(int h) {
         Memory memory = sites[h].memory;
+        // who runs is asked once: a child that is cloned in the round has no turn in it
         int turns = memory.running();
         int done = 0;
         for (int a = 0; a < AGENTS; a++) {
@@ -263,9 +264,6 @@ public final class AgentNet {
             }
             int asks = processor.perform(t, scripts[t.script], tables[h], h);
             memory.grant(a, asks, processor.asked);
-            if (asks == ASKS_CLONE) {
-                turns &= ~(1 << (a + LAUNCHES));
-            }
             done++;
         }
         return done;
@@ -469,7 +467,6 @@ public final class AgentNet {
         int asked = 0;
 
         int perform(Traveller t, Script script, int[] table, int here) {
-            asked = 0;
             t.fuel--;
             if (!read(t, script) || !takesFit(t) || !boundsFit(t)) {
                 return ASKS_FAIL;
@@ -822,7 +819,6 @@ public final class AgentNet {
 
         void pack(Traveller t) {
             isArrival = true;
-            length = 0;
             put(t.number);
             put(t.script);
             put(t.place);

@@ -69,15 +69,18 @@ public final class CheckpointTest {
         C.same("fuel", net.agent(0, 0, 2), 97);
         C.same("stack", net.agent(0, 0, 5), 1);
         C.same("pair", net.agent(0, 0, 10), 1);
-        // the pair of the copy was not changed with the memory's
-        net.step(0, 1);
-        net.checkpoint(0);
-        net.step(0, 9);
-        net.write(0, 9);
-        Kit.restart(net, 0);
-        net.step(0, 9);
-        Kit.seal(net, 0);
-        C.same("as if nothing had failed", net.output(0, 0), 3);
+        AgentNet pair = Kit.launched(100, Kit.PUSH, 1, Kit.PUSH, 2, Kit.PAIR, Kit.PICK, 0, Kit.FIRST, Kit.SAY,
+            Kit.PICK, 0, Kit.SECOND, Kit.SAY, Kit.PICK, 0, Kit.PUSH, 3, Kit.SET_FIRST, Kit.PICK, 0, Kit.PUSH, 4,
+            Kit.SET_SECOND, Kit.JUMP, 5);
+        pair.step(0, 3);
+        Kit.seal(pair, 0);
+        pair.step(0, 12);
+        Kit.restart(pair, 0);
+        pair.step(0, 20);
+        Kit.seal(pair, 0);
+        for (int i = 0; i < 4; i++) {
+            C.same("the copy's pair was not changed", pair.output(0, i), i + 1);
+        }
     }
 
     private static void releasedUpToTheCheckpoint() {
@@ -217,6 +220,8 @@ public final class CheckpointTest {
         C.illegalState("one is written", () -> net.checkpoint(0));
         C.same("that changed nothing", net.write(0, 1), 4);
         C.illegalState("one is half written", () -> net.checkpoint(0));
+        net.write(0, 3);
+        C.illegalState("one sector is left", () -> net.checkpoint(0));
         net.crash(0);
         C.illegalState("write when down", () -> net.write(0, 1));
         C.illegalState("checkpoint when down", () -> net.checkpoint(0));

@@ -92,6 +92,7 @@ public final class CrashTest {
         net.step(0, 2);
         C.same("it waits", net.agent(0, 0, 4), 5);
         Kit.seal(net, 0);
+        net.tick(0);
         Kit.restart(net, 0);
         Kit.restart(net, 1);
         C.same("note at 0", net.host(0, 2), 1);
@@ -102,6 +103,16 @@ public final class CrashTest {
         C.same("known at 1", net.host(1, 10), 1);
         C.same("hops at 1", net.agent(1, 0, 1), 2);
         C.same("it is sent again", net.tick(1), 3);
+        AgentNet clones = Kit.launched(50, Kit.PUSH, 9, Kit.CLONE, Kit.SAY);
+        Kit.seal(clones, 0);
+        clones.step(0, 3);
+        Kit.restart(clones, 0);
+        C.same("no child yet", clones.slot(0, 4), 0);
+        clones.step(0, 3);
+        C.same("it had not cloned", clones.slot(0, 4), 1);
+        Kit.seal(clones, 0);
+        Kit.restart(clones, 0);
+        C.same("the child comes back", clones.agent(0, 4, 2), 8);
     }
 
     private static void saidAgainIsReleasedOnce() {

@@ -249,6 +249,18 @@ public final class InstructionTest {
         AgentNet six = Kit.stepped(6, Kit.zerosThen(6, Kit.END));
         C.same("six", six.agent(0, 0, 5), 6);
         C.same("that is no failure", six.slot(0, 0), 1);
+        for (int[] sixth : new int[][] {{Kit.PUSH, 0}, {Kit.PICK, 4}, {Kit.TABLE, 0}}) {
+            AgentNet net = Kit.stepped(6, Kit.zerosThen(5, sixth));
+            C.same("a sixth by " + sixth[0], net.agent(0, 0, 5), 6);
+            C.same("runs", net.slot(0, 0), 1);
+        }
+        AgentNet jumps = Kit.stepped(9, Kit.zerosThen(6, Kit.JUMP, 12));
+        C.same("a jump with six", jumps.slot(0, 0), 1);
+        for (int code : new int[] {Kit.FIRST, Kit.SECOND}) {
+            AgentNet net = Kit.stepped(9, Kit.zerosThen(5, Kit.PUSH, 0, Kit.PAIR, Kit.PICK, 0, code));
+            C.same("part of a pair with six", net.agent(0, 0, 0), 16);
+            C.same("the part", net.agent(0, 0, 15), 0);
+        }
         fails("a seventh pushed", 7, 12, Kit.zerosThen(6, Kit.PUSH, 0));
         fails("a seventh picked", 7, 12, Kit.zerosThen(6, Kit.PICK, 5));
         fails("a seventh of the table", 7, 12, Kit.zerosThen(6, Kit.TABLE, 0));

@@ -14,6 +14,7 @@ public final class NetTest {
         toAHostThatIsDown();
         aReceiptGoesBehindTheRow();
         theImageIsWhatRuns();
+        allPartsArrive();
         wrongArguments();
         C.finish();
     }
@@ -220,6 +221,23 @@ public final class NetTest {
         C.same("the int", net.output(0, 0), -1);
         C.same("count", net.outputs(0), net.expected(0));
         C.same("pair and int", net.output(0, 1), net.expectedOutput(0, 1));
+    }
+
+    private static void allPartsArrive() {
+        // the stack when it goes: -7, p = (1, 2), (3, p); all its parts are said behind the hop
+        AgentNet net = Kit.launched(200, Kit.PUSH, 256 - 7, Kit.PUSH, 1, Kit.PUSH, 2, Kit.PAIR, Kit.PUSH, 3, Kit.PICK, 1,
+            Kit.PAIR, Kit.PUSH, 1, Kit.GO, Kit.PICK, 0, Kit.SECOND, Kit.PICK, 2, Kit.SAME, Kit.SAY, Kit.PICK, 0,
+            Kit.FIRST, Kit.SAY, Kit.SECOND, Kit.SECOND, Kit.SAY, Kit.FIRST, Kit.SAY, Kit.SAY);
+        net.step(0, 40);
+        Kit.send(net, 0);
+        net.net(0, 0);
+        net.step(1, 40);
+        Kit.seal(net, 1);
+        long[] due = {1, 3, 2, 1, -7};
+        C.same("outputs", net.outputs(0), due.length);
+        for (int i = 0; i < due.length; i++) {
+            C.same("part " + i, net.output(0, i), due[i]);
+        }
     }
 
     private static void wrongArguments() {

@@ -63,15 +63,18 @@ public final class RoomTest {
         com.sun.management.ThreadMXBean bean =
             (com.sun.management.ThreadMXBean) java.lang.management.ManagementFactory.getThreadMXBean();
         long id = Thread.currentThread().getId();
-        AgentNet net = new AgentNet();
+        long least = Long.MAX_VALUE;
         // the first time, the machine itself makes objects (it loads classes)
-        for (int i = 0; i < 3; i++) {
-            busy(new AgentNet());
-            bean.getThreadAllocatedBytes(id);
+        for (int i = 0; i < 5; i++) {
+            AgentNet net = new AgentNet();
+            // asking for the count takes bytes too
+            long first = bean.getThreadAllocatedBytes(id);
+            long second = bean.getThreadAllocatedBytes(id);
+            busy(net);
+            long third = bean.getThreadAllocatedBytes(id);
+            least = Math.min(least, (third - second) - (second - first));
         }
-        long start = bean.getThreadAllocatedBytes(id);
-        busy(net);
-        C.same("bytes that the calls took", bean.getThreadAllocatedBytes(id) - start, 0);
+        C.same("bytes that the calls took", least, 0);
     }
 
     private static void busy(AgentNet net) {
