@@ -8,7 +8,7 @@ final class Check {
         this.name = name;
     }
 
-    interface Call {
+    interface Deed {
         void make();
     }
 
@@ -23,22 +23,29 @@ final class Check {
         same(what, got ? 1 : 0, want ? 1 : 0);
     }
 
-    void illegalArgument(String what, Call call) {
-        raises(what, IllegalArgumentException.class, call);
+    void same(String what, String got, String want) {
+        looked++;
+        if (!got.equals(want)) {
+            report(what + " answered " + got + ", due is " + want);
+        }
     }
 
-    void illegalState(String what, Call call) {
-        raises(what, IllegalStateException.class, call);
+    void illegalArgument(String what, Deed deed) {
+        raises(what, IllegalArgumentException.class, deed);
     }
 
-    void outOfBounds(String what, Call call) {
-        raises(what, IndexOutOfBoundsException.class, call);
+    void illegalState(String what, Deed deed) {
+        raises(what, IllegalStateException.class, deed);
     }
 
-    private void raises(String what, Class<? extends RuntimeException> due, Call call) {
+    void outOfBounds(String what, Deed deed) {
+        raises(what, IndexOutOfBoundsException.class, deed);
+    }
+
+    private void raises(String what, Class<? extends RuntimeException> due, Deed deed) {
         looked++;
         try {
-            call.make();
+            deed.make();
         } catch (RuntimeException e) {
             if (e.getClass() != due) {
                 report(what + " threw " + e.getClass().getSimpleName() + ", due is " + due.getSimpleName());
