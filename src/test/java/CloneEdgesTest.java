@@ -196,6 +196,19 @@ public final class CloneEdgesTest {
             "agent 1 0 0: 10",
             "agent 1 0 5: 3",
             "agent 1 0 6: 1");
+        Rows.hold(C, "its pairs are its own then: what becomes of the parent's is not seen",
+            "load 0 push 3 push 4 pair pick 0 push 20 clone setfirst pick 0 first say second say",
+            "launch 1 0 100",
+            "step 1 6: 6",
+            "step 1 40",
+            "seal 1",
+            "output 0 0: 0",
+            "output 0 1: 4",
+            "output 4 0: 1",
+            "output 4 1: 4",
+            "expectedOutput 0 0: 0",
+            "expectedOutput 4 0: 1",
+            "expectedOutput 4 1: 4");
     }
 
     private static void noHopsAndNoneSaid() {

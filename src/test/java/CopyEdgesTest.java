@@ -32,6 +32,7 @@ public final class CopyEdgesTest {
         startWhenUp();
         theCopyThatIsNotSealedIsGone();
         theSealedCopyAtFirst();
+        allOfAMemoryIsSealed();
         messagesOutliveACrash();
         C.finish();
     }
@@ -481,6 +482,53 @@ public final class CopyEdgesTest {
             "write 0 1: 0",
             "outputs 0: 0",
             "launch 0 0 50: 2"));
+        Rows.hold(C, "an empty memory has no note, and owes nothing",
+            "load 0 push 1 go push 2 go",
+            "launch 0 0 90",
+            "step 0 2",
+            "send 0",
+            "net 0 0: 0",
+            "step 1 2",
+            "host 1 2: 2",
+            "host 1 10: 1",
+            "restart 1",
+            "slot 1 0: 0",
+            "host 1 2: -1",
+            "host 1 10: -1",
+            "checkpoint 1: 1",
+            "write 1 1: 0",
+            "message 0 0: -1");
+    }
+
+    private static void allOfAMemoryIsSealed() {
+        Rows.hold(C, "when it starts its memory becomes the sealed copy: both parts of a pair, and what was said",
+            "load 0 push 4 push 5 pair push 6 say pick 0 push 7 setfirst pick 0 push 8 setsecond pick 0 first say second say",
+            "launch 0 0 90",
+            "step 0 5",
+            "seal 0",
+            "step 0 6",
+            "restart 0",
+            "agent 0 0 0: 8",
+            "agent 0 0 3: 1",
+            "agent 0 0 6: 1",
+            "step 0 40",
+            "seal 0",
+            "outputs 0: 3",
+            "output 0 0: 6",
+            "output 0 1: 7",
+            "output 0 2: 8");
+        Rows.hold(C, "the parts of the copy's pair are those of its beginning",
+            "load 0 push 4 push 5 pair pick 0 first say pick 0 second say pick 0 push 7 setfirst pick 0 push 8 setsecond jump 5",
+            "launch 0 0 90",
+            "step 0 3",
+            "checkpoint 0: 2",
+            "step 0 13",
+            "write 0 9: 0",
+            "restart 0",
+            "step 0 6",
+            "seal 0",
+            "output 0 0: 4",
+            "output 0 1: 5");
     }
 
     private static void messagesOutliveACrash() {

@@ -268,6 +268,14 @@ public final class OutputEdgesTest {
             "expected 1: 2",
             "expectedOutput 1 0: 30",
             "expectedOutput 1 1: 37");
+        Rows.hold(C, "its child is run likewise from there: at host 3, though it was launched at host 0 and went on to host 1",
+            "table 0 0 10",
+            "table 1 0 11",
+            "table 3 0 13",
+            "load 0 push 3 go push 20 clone jumpif 11 push 1 go table 0 say",
+            "launch 0 0 90",
+            "expectedOutput 0 0: 11",
+            "expectedOutput 4 0: 13");
     }
 
     private static void launchedThoughLost() {

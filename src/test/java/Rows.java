@@ -1,4 +1,5 @@
 import java.util.ArrayList;
+import java.util.Arrays;
 import java.util.List;
 
 /**
@@ -34,7 +35,7 @@ final class Rows {
 
     /** Rows before others, for runs that begin alike. */
     static String[] after(String[] before, String... rows) {
-        String[] all = java.util.Arrays.copyOf(before, before.length + rows.length);
+        String[] all = Arrays.copyOf(before, before.length + rows.length);
         System.arraycopy(rows, 0, all, before.length, rows.length);
         return all;
     }

@@ -101,9 +101,9 @@ public final class StepEdgesTest {
             "step 0 40: 40");
     }
 
-    /** One that comes before is done first; what they say shows no order, but what is sent does. */
+    /** Agents of one round do not meet, so their order is seen by the arrivals of the tick alone. */
     private static void fromZeroOn() {
-        Rows.hold(C, "from 0 on: the parent has its turn before its child, agent 0 before agent 1",
+        Rows.hold(C, "from 0 on, to the last one: all eight have their turns, and their arrivals are sent in this order",
             "load 0 push 9 clone push 2 add go",
             "times 4 launch 0 0 50",
             "step 0 1: 4",
