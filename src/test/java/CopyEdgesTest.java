@@ -25,6 +25,8 @@ public final class CopyEdgesTest {
         releasedIfItWasNot();
         owedInTheCopy();
         theSameNumberOfHopsStill();
+        theLatestThatCameIsOwed();
+        aReceiptComesWhileACopyIsWritten();
         receiptsWithoutRoom();
         crashAtNoSuchHost();
         crashWhenDown();
@@ -358,6 +360,51 @@ public final class CopyEdgesTest {
             "message 3 4: 0",
             "seal 2",
             "message 4 0: -1"));
+    }
+
+    /** A host that starts owes again what its sealed copy owes; one that comes then is owed instead. */
+    private static void theLatestThatCameIsOwed() {
+        Rows.hold(C, "a receipt is owed to the host it came from, though one is owed to another",
+            "load 0 push 2 go push 1 go push 2 go",
+            "launch 0 0 90",
+            "step 0 2",
+            "send 0",
+            "net 0 0: 0",
+            "step 2 2",
+            "seal 2",
+            "net 0 1: 0",
+            "tick 2: 1",
+            "restart 2",
+            "net 0 0: 0",
+            "step 1 2",
+            "send 1",
+            "net 1 0: 1",
+            "host 2 10: 3",
+            "seal 2",
+            "message 1 0: 1",
+            "message 1 2: 3",
+            "message 1 3: 2",
+            "message 1 4: 1",
+            "message 2 0: -1",
+            "seal 2",
+            "message 2 0: -1");
+    }
+
+    private static void aReceiptComesWhileACopyIsWritten() {
+        Rows.hold(C, "a receipt makes the slot empty in the memory, not in the copy that is being written", Rows.after(CAME_TO_2,
+            "seal 2",
+            "checkpoint 0: 2",
+            "net 0 0: 0",
+            "slot 0 0: 0",
+            "host 0 1: 2",
+            "write 0 2: 0",
+            "slot 0 0: 0",
+            "tick 0: 0",
+            "restart 0",
+            "slot 0 0: 2",
+            "agent 0 0 1: 1",
+            "tick 0: 1",
+            "message 0 2: 1"));
     }
 
     private static void receiptsWithoutRoom() {

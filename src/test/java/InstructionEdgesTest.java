@@ -9,6 +9,7 @@ public final class InstructionEdgesTest {
         sumsWrap();
         differencesWrap();
         productsWrap();
+        wrappedIntsAreInts();
         belowTheTopmost();
         entries();
         sixteenOutputs();
@@ -155,6 +156,55 @@ public final class InstructionEdgesTest {
         says("a * b that just does not wrap", "table 0 push 1 mul say table 1 push -1 mul say table 1 push 1 mul say",
             "-2147483648", "-2147483647", "2147483647");
         says("a * b of both ends", "table 0 table 1 mul say table 0 push 2 mul say", "-2147483648", "0");
+    }
+
+    /** What wrapped is an int like any other for what takes it. */
+    private static void wrappedIntsAreInts() {
+        says("a + b that wrapped is the same int", "table 0 table 0 add push 0 same say table 1 push 1 add table 0 same say table 0 "
+            + "push -1 add table 1 same say", "1", "1", "1");
+        says("a - b that wrapped is the same int", "table 0 push 1 sub table 1 same say table 1 push -1 sub table 0 same say "
+            + "table 0 table 1 sub push 1 same say table 1 table 0 sub push -1 same say", "1", "1", "1", "1");
+        says("a * b that wrapped is the same int", "table 0 push -1 mul table 0 same say table 1 push 2 mul push -2 same say "
+            + "table 0 push 2 mul push 0 same say table 1 table 1 mul push 1 same say", "1", "1", "1", "1");
+        says("a + b that wrapped to 0 does not jump", "table 0 table 0 add jumpif 9 push 1 say", "1");
+        says("a * b that wrapped to 0 does not jump", "table 0 push 2 mul jumpif 9 push 1 say", "1");
+        for (String one : new String[] {"table 0 table 1 sub", "table 1 table 1 mul", "table 1 push 2 add table 0 add"}) {
+            Rows.hold(C, "what wrapped to 1 is 1: it goes, waits and clones (" + one + ")",
+                "load 0 " + one + " go",
+                "load 1 " + one + " wait",
+                "load 2 " + one + " clone",
+                "table 0 0 MIN",
+                "table 0 1 MAX",
+                "launch 0 0 50",
+                "launch 0 1 50",
+                "launch 0 2 50",
+                "step 0 40",
+                "slot 0 0: 2",
+                "host 0 2: 1",
+                "slot 0 1: 1",
+                "agent 0 1 4: 1",
+                "slot 0 6: 4",
+                "agent 0 6 2: 0",
+                "expected 6: 0");
+        }
+        Rows.hold(C, "what wrapped is four bytes in an image",
+            "load 0 table 1 push 1 add table 0 push 1 sub table 1 table 1 mul push 3 go",
+            "table 0 0 MIN",
+            "table 0 1 MAX",
+            "launch 0 0 50",
+            "step 0 40: 11",
+            "send 0",
+            "message 0 5: 26",
+            "message 0 20: 0",
+            "message 0 21: 128",
+            "message 0 24: 0",
+            "message 0 25: 0",
+            "message 0 26: 127",
+            "message 0 29: 255",
+            "message 0 30: 0",
+            "message 0 31: 0",
+            "message 0 34: 1",
+            "message 0 35: 0");
     }
 
     private static void belowTheTopmost() {
@@ -410,7 +460,10 @@ public final class InstructionEdgesTest {
         done("an int takes the place of seven", eight + "pick 0 push 1 setfirst", 20, "agent 0 0 6: 1", "agent 0 0 5: 1");
         done("a pair is reached twice, and once, and not", "push 0 push 0 pair pick 0 drop", 5, "agent 0 0 6: 1");
         done("a pair is reached twice, and once, and not", "push 0 push 0 pair pick 0 drop drop", 6, "agent 0 0 6: 0");
-        done("its parts are ints: it is not reached", "push 0 push 0 pair second", 4, "agent 0 0 6: 0", "agent 0 0 10: 0");
+        for (String part : new String[] {"first", "second"}) {
+            done("its parts are ints: it is not reached", "push 0 push 0 pair " + part, 4, "agent 0 0 6: 0", "agent 0 0 10: 0");
+            done("one of two is reached by it", "push 0 push 0 pair pick 0 pair " + part, 6, "agent 0 0 6: 1", "agent 0 0 10: 1");
+        }
         done("what it is compared with is not reached then", "push 0 push 0 pair pick 0 same", 5, "agent 0 0 6: 0");
     }
 

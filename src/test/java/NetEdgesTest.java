@@ -22,6 +22,7 @@ public final class NetEdgesTest {
         asManyHopsAsTheHostKnows();
         theSealedCopyKnowsAsMany();
         theSealedCopyKnowsMore();
+        whatIsOwedStaysOwed();
         whateverItsSlotWas();
         justTheseHops();
         leavingThere();
@@ -262,6 +263,59 @@ public final class NetEdgesTest {
             "message 0 0: 1",
             "message 0 2: 1",
             "message 0 4: 0");
+    }
+
+    /** An old arrival comes once more while a receipt for a later one is owed to another host. */
+    private static void whatIsOwedStaysOwed() {
+        Rows.hold(C, "a receipt with the arrival's hops is sent to where it is from; the one that is owed stays owed",
+            "load 0 push 2 go push 1 go push 2 go",
+            "launch 0 0 90",
+            "step 0 2",
+            "send 0",
+            "net 0 2: 2",
+            "net 0 0: 1",
+            "step 2 2",
+            "seal 2",
+            "net 1 1: 1",
+            "tick 2: 2",
+            "net 1 0: 1",
+            "step 1 2",
+            "seal 1",
+            "tick 1: 3",
+            "net 2 0: 2",
+            "host 2 10: 3",
+            "net 0 0: 2",
+            "slot 2 0: 1",
+            "agent 2 0 1: 3",
+            "message 1 0: 1",
+            "message 1 2: 1",
+            "message 1 3: 2",
+            "message 1 4: 0",
+            "seal 2",
+            "message 2 0: 1",
+            "message 2 2: 3",
+            "message 2 3: 2",
+            "message 2 4: 1",
+            "message 3 0: -1");
+        Rows.hold(C, "a receipt is sent at once, and the one that is owed after a crash when it is sealed",
+            "load 0 push 2 go",
+            "launch 0 0 90",
+            "step 0 2",
+            "send 0",
+            "net 0 2: 2",
+            "net 0 0: 1",
+            "seal 2",
+            "net 1 1: 1",
+            "restart 2",
+            "net 0 0: 1",
+            "message 0 0: 1",
+            "message 0 4: 0",
+            "seal 2",
+            "message 1 0: 1",
+            "message 1 2: 1",
+            "message 1 4: 0",
+            "seal 2",
+            "message 2 0: -1");
     }
 
     private static void whateverItsSlotWas() {

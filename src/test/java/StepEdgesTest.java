@@ -24,6 +24,8 @@ public final class StepEdgesTest {
         asManyHopsInTheSealedCopy();
         theMessagesUnderWayThen();
         fiveHundredAndTwelveCalls();
+        theSameCallTillThe512th();
+        changesTillThe512th();
         C.finish();
     }
 
@@ -398,5 +400,38 @@ public final class StepEdgesTest {
         rows.add("output 0 0: 7");
         C.same("calls", rows.size(), 512);
         Rows.hold(C, "an object is used for at most 512 calls", rows);
+    }
+
+    /** Each call of the face answers as at first when it is made over and over, up to the 512th call. */
+    private static void theSameCallTillThe512th() {
+        for (String[] again : new String[][] {{"table 3 7 5: true"}, {"program 3 0 9: -1"}, {"message 0 2: 1"}, {"slot 0 0: 2"},
+            {"agent 0 0 0: 6"}, {"host 0 2: 1"}, {"sealed 0: 101"}, {"outputs 0: 1"}, {"output 0 0: 7"}, {"expected 0: 1"},
+            {"expectedOutput 0 0: 7"}, {"step 1 1: 0"}, {"tick 1: 1"}, {"launch 4 0 1: IllegalArgumentException"},
+            {"checkpoint 1: 1", "write 1 1: 0"}, {"crash 1: true", "start 1: true"}, {"net 0 2: 2", "net 0 1: 1"},
+            {"checkpoint 0: 2", "write 0 1: 1", "write 0 1: 0"}}) {
+            List<String> rows = new ArrayList<>();
+            if (!again[0].startsWith("table")) {
+                rows.addAll(List.of("program 0 0x0107080101 5: 5", "program 0 9 1: 6", "launch 0 0 50: 0", "step 0 4: 4",
+                    "checkpoint 0: 2", "write 0 2: 0", "tick 0: 1"));
+            }
+            for (int i = 0; rows.size() < 512; i++) {
+                rows.add(again[i % again.length]);
+            }
+            Rows.hold(C, "at most 512 calls, the last of them " + rows.get(511), rows);
+        }
+    }
+
+    /** What changes with each call goes on changing up to the 512th. */
+    private static void changesTillThe512th() {
+        List<String> rows = new ArrayList<>(List.of("load 0 push 20 wait push 7 say", "launch 0 0 50", "step 0 2: 2"));
+        for (int i = rows.size(); i < 512 - 24; i++) {
+            rows.add(i % 2 == 0 ? "tick 1: 0" : "step 0 40: 0");
+        }
+        for (int ticks = 19; ticks >= 0; ticks--) {
+            rows.add("tick 0: 0");
+        }
+        rows.addAll(List.of("step 0 2: 2", "checkpoint 0: 2", "write 0 2: 0", "output 0 0: 7"));
+        C.same("calls", rows.size(), 512);
+        Rows.hold(C, "ticks, rounds and sectors up to the 512th call", rows);
     }
 }
