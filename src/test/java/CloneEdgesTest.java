@@ -13,6 +13,7 @@ public final class CloneEdgesTest {
         hasNotClonedAfterACrash();
         theChildAsItIsThen();
         noHopsAndNoneSaid();
+        noNoteAndNothingOwed();
         runsThere();
         C.finish();
     }
@@ -246,6 +247,35 @@ public final class CloneEdgesTest {
             "message 2 14: 1",
             "message 2 16: 0",
             "message 1 16: 1");
+    }
+
+    /** The parent left here once and came back; the child has done neither. */
+    private static void noNoteAndNothingOwed() {
+        Rows.hold(C, "no note of the child, and no receipt that is owed for it",
+            "load 0 push 1 go push 0 go push 9 clone",
+            "launch 0 0 90",
+            "step 0 2",
+            "send 0",
+            "net 0 0: 0",
+            "step 1 2",
+            "send 1",
+            "net 1 0: 1",
+            "net 0 1: 0",
+            "host 0 2: 1",
+            "step 0 2: 2",
+            "slot 0 4: 1",
+            "host 0 6: -1",
+            "host 0 14: 0",
+            "host 0 2: 1",
+            "host 0 10: 2",
+            "checkpoint 0: 3",
+            "write 0 3: 0",
+            "message 0 1: 0",
+            "message 0 2: 2",
+            "message 0 4: 1",
+            "message 1 0: -1",
+            "sealed 0: 201",
+            "sealed 4: 1");
     }
 
     private static void runsThere() {

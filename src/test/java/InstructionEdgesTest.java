@@ -24,6 +24,7 @@ public final class InstructionEdgesTest {
         atMostEightPairs();
         pairsThatAreReached();
         pairsInThemselves();
+        whichPairIsTaken();
         theSameOrNot();
         nothingOfTheInstructionIsDone();
         C.finish();
@@ -478,6 +479,24 @@ public final class InstructionEdgesTest {
             "agent 0 0 6: 2", "agent 0 0 5: 1");
         // a ring is made, dropped and made again, till no fuel is left: never more than one pair
         done("rings make room again", ring + "drop jump 0", 40, "slot 0 0: 1", "step 0 40: 40", "step 0 40: 40", "slot 0 0: 1");
+    }
+
+    /** The one that is taken, not the first or the last that was made, has its part read or changed. */
+    private static void whichPairIsTaken() {
+        String three = "push 1 push 2 pair push 3 push 4 pair push 5 push 6 pair ";
+        says("the first of each", three + "first say first say first say", "5", "3", "1");
+        says("the second of each", three + "second say second say second say", "6", "4", "2");
+        for (int x = 0; x < 3; x++) {
+            String[] firsts = {"5", "3", "1"};
+            String[] seconds = {"6", "4", "2"};
+            firsts[x] = "9";
+            says("an int becomes the first of one", three + "pick " + x + " push 9 setfirst first say first say first say", firsts);
+            seconds[x] = "9";
+            says("an int becomes the second of one", three + "pick " + x + " push 9 setsecond second say second say second say",
+                seconds);
+        }
+        says("a pair becomes the first of another", three + "pick 1 pick 3 setfirst drop first second say", "2");
+        says("a pair becomes the second of another", three + "pick 2 pick 1 setsecond drop drop second second say", "6");
     }
 
     private static void theSameOrNot() {

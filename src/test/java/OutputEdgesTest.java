@@ -21,6 +21,8 @@ public final class OutputEdgesTest {
         runAloneToItsLastFuel();
         toWaitDoesNothing();
         tablesOfTheOutermostHosts();
+        theChildsPairsThere();
+        othersAreLaunchedThen();
         launchedThoughLost();
         C.finish();
     }
@@ -276,6 +278,57 @@ public final class OutputEdgesTest {
             "launch 0 0 90",
             "expectedOutput 0 0: 11",
             "expectedOutput 4 0: 13");
+    }
+
+    private static void theChildsPairsThere() {
+        Rows.hold(C, "its child is run likewise from there: with its pairs, and the pairs it makes then",
+            "load 0 push 4 push 5 pair push 50 clone drop push 6 pick 1 pair pick 0 second first say first say second say",
+            "launch 0 0 200",
+            "expected 0: 3",
+            "expectedOutput 0 0: 4",
+            "expectedOutput 0 1: 6",
+            "expectedOutput 0 2: 5",
+            "expected 4: 3",
+            "expectedOutput 4 0: 4",
+            "expectedOutput 4 1: 6",
+            "expectedOutput 4 2: 5",
+            "step 0 40",
+            "seal 0",
+            "outputs 4: 3",
+            "output 4 0: 4",
+            "output 4 1: 6",
+            "output 4 2: 5");
+        Rows.hold(C, "the parent goes on with its own pairs: what the child's become is not seen",
+            "load 0 push 4 push 5 pair push 50 clone jumpif 14 push 1 jumpif 19 pick 0 push 9 setfirst first say",
+            "launch 0 0 200",
+            "expected 0: 1",
+            "expectedOutput 0 0: 4",
+            "expected 4: 1",
+            "expectedOutput 4 0: 9");
+    }
+
+    private static void othersAreLaunchedThen() {
+        Rows.hold(C, "a failure-free run is that of its agent, whatever is launched then",
+            "load 0 push 50 clone drop push 7 say end push 8 say",
+            "load 1 push 3 say end",
+            "launch 0 0 200",
+            "expected 0: 1",
+            "expected 4: 1",
+            "launch 0 1 200",
+            "launch 1 0 200",
+            "launch 2 1 200",
+            "expected 0: 1",
+            "expectedOutput 0 0: 7",
+            "expectedOutput 0 1: 2^40",
+            "expected 4: 1",
+            "expectedOutput 4 0: 7",
+            "expectedOutput 4 1: 2^40",
+            "expected 1: 1",
+            "expectedOutput 1 0: 3",
+            "expected 5: -1",
+            "expectedOutput 5 0: 2^40",
+            "expected 6: 1",
+            "expected 7: -1");
     }
 
     private static void launchedThoughLost() {

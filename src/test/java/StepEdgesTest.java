@@ -421,17 +421,17 @@ public final class StepEdgesTest {
         }
     }
 
-    /** What changes with each call goes on changing up to the 512th. */
+    /** What a call changes it changes up to the 512th, however often the same call was made before. */
     private static void changesTillThe512th() {
-        List<String> rows = new ArrayList<>(List.of("load 0 push 20 wait push 7 say", "launch 0 0 50", "step 0 2: 2"));
-        for (int i = rows.size(); i < 512 - 24; i++) {
-            rows.add(i % 2 == 0 ? "tick 1: 0" : "step 0 40: 0");
+        for (String[] before : new String[][] {{"tick 1: 0"}, {"step 1 1: 0"}, {"checkpoint 1: 1", "write 1 1: 0"},
+            {"crash 1: true", "start 1: true"}, {"slot 0 0: 1"}}) {
+            List<String> rows = new ArrayList<>(List.of("program 0 0x01020D0107080000 8: 8", "launch 0 0 50: 0", "step 0 2: 2"));
+            for (int i = 0; rows.size() < 512 - 9; i++) {
+                rows.add(before[i % before.length]);
+            }
+            rows.addAll(List.of("tick 0: 0", "tick 0: 0", "agent 0 0 4: 0", "step 0 2: 2", "checkpoint 0: 2", "write 0 2: 0",
+                "output 0 0: 7", "crash 0: true", "start 0: true"));
+            Rows.hold(C, "ticks, rounds, sectors and crashes up to the 512th call, after many like " + before[0], rows);
         }
-        for (int ticks = 19; ticks >= 0; ticks--) {
-            rows.add("tick 0: 0");
-        }
-        rows.addAll(List.of("step 0 2: 2", "checkpoint 0: 2", "write 0 2: 0", "output 0 0: 7"));
-        C.same("calls", rows.size(), 512);
-        Rows.hold(C, "ticks, rounds and sectors up to the 512th call", rows);
     }
 }
