@@ -1,4 +1,5 @@
 import java.util.ArrayList;
+import java.util.Collections;
 import java.util.List;
 import java.util.Random;
 
@@ -33,7 +34,12 @@ final class Chance {
     int[] program() {
         List<Integer> bytes = new ArrayList<>();
         StringBuilder kinds = new StringBuilder();
-        int length = from(10, 46);
+        if (oneIn(4)) {
+            chain(bytes, kinds, from(1, 8));
+        } else if (oneIn(4)) {
+            countdown(bytes, from(2, 16));
+        }
+        int length = from(Math.max(10, bytes.size()), 46);
         while (bytes.size() < length) {
             fitting(bytes, kinds);
             if (oneIn(60)) {
@@ -49,6 +55,26 @@ final class Chance {
             all[i] = bytes.get(i);
         }
         return all;
+    }
+
+    /** Pairs that lie in one another, so that agents come near the most they may have. */
+    private void chain(List<Integer> bytes, StringBuilder kinds, int pairs) {
+        push(bytes, kinds, from(-9, 9));
+        for (int i = 0; i < pairs; i++) {
+            push(bytes, kinds, from(-9, 9));
+            bytes.add(Kit.PAIR);
+            drop(kinds, 1);
+        }
+        drop(kinds, 1);
+        kinds.append('p');
+    }
+
+    /** Says n, n - 1 and so on to 1, so that agents come near the most they may say. */
+    private void countdown(List<Integer> bytes, int n) {
+        int[] loop = {Kit.PUSH, n, Kit.PICK, 0, Kit.SAY, Kit.PUSH, 1, Kit.SUB, Kit.PICK, 0, Kit.JUMP_IF, 2, Kit.DROP};
+        for (int b : loop) {
+            bytes.add(b);
+        }
     }
 
     private void push(List<Integer> bytes, StringBuilder kinds, int value) {
@@ -124,6 +150,8 @@ final class Chance {
         } else if ((choice == 17 || choice == 18) && below == 'p') {
             bytes.add(choice);
             drop(kinds, 2);
+        } else if ((choice == 17 || choice == 18) && top == 'p' && depth < 5) {
+            Collections.addAll(bytes, Kit.PICK, 0, Kit.PUSH, from(-9, 9) & 255, choice);
         } else if (choice == 19 && depth > 1) {
             bytes.add(Kit.SAME);
             drop(kinds, 2);

@@ -16,6 +16,9 @@ public final class ImageEdgesTest {
         intsAtTheirEnds();
         noPairAndEight();
         numbersOfPairs();
+        eachNumberOfPairs();
+        eachNumberOfValues();
+        partsThatAreSetElsewhere();
         theSameAgain();
         C.finish();
     }
@@ -209,6 +212,82 @@ public final class ImageEdgesTest {
             0, 0, 0, 0, 1, 0, 0, 0, 0, 2,
             1, 2, 1, 0,
             0, 0, 0, 0, 3, 0, 0, 0, 0, 4);
+    }
+
+    /** A chain of so many pairs goes from host 0 over host 1, where it is restarted, to host 2. */
+    private static void eachNumberOfPairs() {
+        for (int pairs = 0; pairs <= 8; pairs++) {
+            StringBuilder chain = new StringBuilder("load 0 push 0 ");
+            for (int i = 1; i <= pairs; i++) {
+                chain.append("push ").append(i).append(" pair ");
+            }
+            int bytes = 2 + 3 * pairs;
+            List<String> rows = new ArrayList<>(List.of(chain + "push 1 go push 2 go pick 0 second say", "launch 0 0 200",
+                "step 0 40: " + (1 + 2 * pairs + 2), "agent 0 0 6: " + pairs, "send 0", "message 0 12: " + (bytes + 3),
+                "message 0 13: 1", "message 0 18: " + (197 - 2 * pairs), "net 0 0: 0", "agent 1 0 0: " + (bytes + 3),
+                "agent 1 0 1: 1", "agent 1 0 5: 1", "agent 1 0 6: " + pairs, "seal 1", "step 1 2: 2", "restart 1", "agent 1 0 1: 1",
+                "agent 1 0 6: " + pairs, "step 1 2: 2", "net 0 1: 0", "seal 1", "net 0 1: 0", "tick 1: 1", "message 0 1: 0",
+                "message 0 11: 0", "message 0 12: " + (bytes + 6), "message 0 13: 2", "message 0 16: 0", "message 0 17: 0",
+                "message 0 18: " + (195 - 2 * pairs), "message 0 19: 1"));
+            rows.add("message 0 " + (pairs == 0 ? 25 : 22) + ": " + pairs);
+            // each pair but the innermost: its first is the next pair, its second the int it was made with
+            for (int i = 0; i < pairs; i++) {
+                int at = 23 + 7 * i;
+                rows.add("message 0 " + at + ": " + (i < pairs - 1 ? 1 : 0));
+                rows.add("message 0 " + (at + 1) + ": " + (i < pairs - 1 ? i + 1 : 0));
+                rows.add("message 0 " + (at + (i < pairs - 1 ? 6 : 9)) + ": " + (pairs - i));
+            }
+            rows.addAll(List.of("net 0 0: 0", "step 2 3: " + (pairs == 0 ? 2 : 3), "slot 2 0: " + (pairs == 0 ? 4 : 1), "seal 2"));
+            rows.add("output 0 0: " + (pairs == 0 ? "2^40" : "" + pairs));
+            Rows.hold(C, "then the number of pairs that can be reached, and their firsts and seconds: " + pairs, rows);
+        }
+    }
+
+    private static void eachNumberOfValues() {
+        for (int values = 0; values <= 5; values++) {
+            StringBuilder pushes = new StringBuilder("load 0 ");
+            for (int i = 0; i < values; i++) {
+                pushes.append("push ").append(i + 40).append(' ');
+            }
+            List<String> rows = new ArrayList<>(List.of(pushes + "push 1 clone go", "launch 0 0 200", "step 0 40: " + (values + 5),
+                "slot 0 4: 2", "slot 0 0: 4", "seal 0", "tick 0: 1"));
+            int[] image = new int[11 + 5 * values];
+            System.arraycopy(new int[] {4, 0, 2 * values + 4, 1, 0, 0, 0, 0, 0, values}, 0, image, 0, 10);
+            for (int i = 0; i < values; i++) {
+                image[14 + 5 * i] = i + 40;
+            }
+            image(rows, 0, image);
+            rows.addAll(List.of("net 0 0: 0", "slot 1 4: 1", "agent 1 4 5: " + values, "agent 1 4 2: 0", "step 1 1: 0"));
+            Rows.hold(C, "how many values the stack has, and these: a child with its last fuel, which has not cloned: " + values, rows);
+        }
+    }
+
+    /** Parts that are set at another host than where the pair was made, by a parent and by its child. */
+    private static void partsThatAreSetElsewhere() {
+        for (String who : new String[] {"0", "4"}) {
+            Rows.hold(C, "pairs go from host to host with the agent, and are set there: agent " + who,
+                "load 0 push 1 push 2 pair push 80 clone push 3 sub push -1 mul go pick 0 push 7 setfirst pick 0 push 8 "
+                    + "setsecond pick 0 first say pick 0 second say",
+                "launch 0 0 200",
+                "step 0 40",
+                "slot 0 0: 2",
+                "slot 0 4: 2",
+                "seal 0",
+                "tick 0: 2",
+                "message 0 4: 3",
+                "message 1 4: 2",
+                "net 0 0: 1",
+                "net 0 0: 0",
+                "step 3 12: 12",
+                "step 2 12: 12",
+                "seal 3",
+                "seal 2",
+                "outputs " + who + ": 2",
+                "output " + who + " 0: 7",
+                "output " + who + " 1: 8",
+                "expectedOutput " + who + " 0: 7",
+                "expectedOutput " + who + " 1: 8");
+        }
     }
 
     private static void theSameAgain() {

@@ -22,6 +22,7 @@ public final class OutputEdgesTest {
         toWaitDoesNothing();
         tablesOfTheOutermostHosts();
         theChildsPairsThere();
+        afterFifteen();
         othersAreLaunchedThen();
         launchedThoughLost();
         C.finish();
@@ -305,6 +306,43 @@ public final class OutputEdgesTest {
             "expectedOutput 0 0: 4",
             "expected 4: 1",
             "expectedOutput 4 0: 9");
+    }
+
+    /** Fifteen are said, and then it ends, goes on elsewhere or clones: as it would with fewer. */
+    private static void afterFifteen() {
+        String fifteen = "push 15 pick 0 say push 1 sub pick 0 jumpif 2 drop ";
+        Rows.hold(C, "an agent that has said 15 outputs ends, clones and goes like others",
+            "load 0 " + fifteen + "end push 9 say",
+            "load 1 " + fifteen + "push 9 clone drop push 1 go table 0 say",
+            "load 2 " + fifteen + "add push 9 say",
+            "table 1 0 77",
+            "launch 0 0 200",
+            "launch 0 1 200",
+            "launch 0 2 200",
+            "expected 0: 15",
+            "expectedOutput 0 14: 1",
+            "expectedOutput 0 15: 2^40",
+            "expected 1: 16",
+            "expectedOutput 1 15: 77",
+            "expected 5: 1",
+            "expectedOutput 5 0: 77",
+            "expected 2: 15",
+            "times 5 step 0 40",
+            "slot 0 0: 3",
+            "slot 0 1: 2",
+            "slot 0 5: 2",
+            "slot 0 2: 4",
+            "seal 0",
+            "outputs 0: 15",
+            "tick 0: 2",
+            "message 0 14: 15",
+            "message 1 14: 0",
+            "net 0 0: 1",
+            "agent 1 1 3: 15",
+            "step 1 2: 2",
+            "seal 1",
+            "outputs 1: 16",
+            "output 1 15: 77");
     }
 
     private static void othersAreLaunchedThen() {
