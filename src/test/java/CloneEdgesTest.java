@@ -13,6 +13,8 @@ public final class CloneEdgesTest {
         hasNotClonedAfterACrash();
         theChildAsItIsThen();
         noHopsAndNoneSaid();
+        notClonedInTheCopy();
+        clonedInTheCopy();
         noNoteAndNothingOwed();
         runsThere();
         C.finish();
@@ -247,6 +249,44 @@ public final class CloneEdgesTest {
             "message 2 14: 1",
             "message 2 16: 0",
             "message 1 16: 1");
+    }
+
+    private static void notClonedInTheCopy() {
+        for (int below = 0; below <= 5; below++) {
+            Rows.hold(C, "the sealed copy has not cloned: it does after a crash, with " + below + " values below",
+                "load 0 " + "push 0 ".repeat(below) + "push 9 clone",
+                "launch 0 0 90",
+                "step 0 " + (below + 1) + ": " + (below + 1),
+                "seal 0",
+                "step 0 1: 1",
+                "slot 0 4: 1",
+                "restart 0",
+                "slot 0 4: 0",
+                "agent 0 0 2: " + (89 - below),
+                "step 0 1: 1",
+                "slot 0 4: 1",
+                "agent 0 0 2: " + (79 - below),
+                "agent 0 4 2: 9",
+                "agent 0 4 5: " + (below + 1));
+        }
+    }
+
+    private static void clonedInTheCopy() {
+        for (int below = 0; below <= 4; below++) {
+            Rows.hold(C, "the sealed copy has cloned: it does not after a crash, with " + below + " values below",
+                "load 0 " + "push 0 ".repeat(below) + "push 9 clone push 8 clone",
+                "launch 0 0 90",
+                "step 0 " + (below + 2) + ": " + (below + 2),
+                "slot 0 4: 1",
+                "seal 0",
+                "restart 0",
+                "agent 0 4 2: 9",
+                "agent 0 0 2: " + (79 - below),
+                "step 0 2: 4",
+                "agent 0 0 2: " + (77 - below),
+                "agent 0 4 2: 7",
+                "agent 0 0 5: " + (below + 2));
+        }
     }
 
     /** The parent left here once and came back; the child has done neither. */

@@ -35,6 +35,7 @@ public final class CopyEdgesTest {
         theCopyThatIsNotSealedIsGone();
         theSealedCopyAtFirst();
         allOfAMemoryIsSealed();
+        pairsOfAStackOfAnySize();
         messagesOutliveACrash();
         C.finish();
     }
@@ -576,6 +577,33 @@ public final class CopyEdgesTest {
             "seal 0",
             "output 0 0: 4",
             "output 0 1: 5");
+    }
+
+    /** What is below and above a pair on the stack does not matter to its copy. */
+    private static void pairsOfAStackOfAnySize() {
+        for (int above = 0; above <= 5; above++) {
+            StringBuilder program = new StringBuilder("load 0 push 4 push 5 pair ");
+            for (int i = 0; i < above; i++) {
+                program.append("push 0 ");
+            }
+            for (int i = 0; i < above; i++) {
+                program.append("drop ");
+            }
+            program.append("pick 0 first say pick 0 second say pick 0 push 7 setfirst pick 0 push 8 setsecond");
+            Rows.hold(C, "its memory becomes the sealed copy: a pair below " + above + " values", program.toString(),
+                "launch 0 0 90",
+                "step 0 " + (3 + above),
+                "seal 0",
+                "step 0 " + (12 + above) + ": " + (12 + above),
+                "restart 0",
+                "agent 0 0 5: " + (1 + above),
+                "agent 0 0 6: 1",
+                "step 0 " + (6 + above) + ": " + (6 + above),
+                "seal 0",
+                "outputs 0: 2",
+                "output 0 0: 4",
+                "output 0 1: 5");
+        }
     }
 
     private static void messagesOutliveACrash() {

@@ -222,7 +222,8 @@ public final class ImageEdgesTest {
                 chain.append("push ").append(i).append(" pair ");
             }
             int bytes = 2 + 3 * pairs;
-            List<String> rows = new ArrayList<>(List.of(chain + "push 1 go push 2 go pick 0 second say", "launch 0 0 200",
+            List<String> rows = new ArrayList<>(List.of(chain + "push 1 go push 2 go pick 0 second say end push 9 say",
+                "launch 0 0 200", "expected 0: " + (pairs == 0 ? 0 : 1),
                 "step 0 40: " + (1 + 2 * pairs + 2), "agent 0 0 6: " + pairs, "send 0", "message 0 12: " + (bytes + 3),
                 "message 0 13: 1", "message 0 18: " + (197 - 2 * pairs), "net 0 0: 0", "agent 1 0 0: " + (bytes + 3),
                 "agent 1 0 1: 1", "agent 1 0 5: 1", "agent 1 0 6: " + pairs, "seal 1", "step 1 2: 2", "restart 1", "agent 1 0 1: 1",

@@ -465,6 +465,15 @@ public final class InstructionEdgesTest {
             done("its parts are ints: it is not reached", "push 0 push 0 pair " + part, 4, "agent 0 0 6: 0", "agent 0 0 10: 0");
             done("one of two is reached by it", "push 0 push 0 pair pick 0 pair " + part, 6, "agent 0 0 6: 1", "agent 0 0 10: 1");
         }
+        // so many values below do not matter
+        String zeros = "";
+        for (int below = 0; below <= 4; below++) {
+            String pair = zeros + "push 0 push 0 pair ";
+            done("not reached, " + below + " values below", pair + "first", below + 4, "agent 0 0 6: 0", "agent 0 0 5: " + (below + 1));
+            done("not reached, " + below + " values below", pair + "drop", below + 4, "agent 0 0 6: 0", "agent 0 0 5: " + below);
+            done("reached, " + below + " values below", pair, below + 3, "agent 0 0 6: 1", "agent 0 0 5: " + (below + 1));
+            zeros += "push 0 ";
+        }
         done("what it is compared with is not reached then", "push 0 push 0 pair pick 0 same", 5, "agent 0 0 6: 0");
     }
 

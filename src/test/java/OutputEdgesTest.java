@@ -23,6 +23,8 @@ public final class OutputEdgesTest {
         tablesOfTheOutermostHosts();
         theChildsPairsThere();
         afterFifteen();
+        pairsAfterFifteen();
+        clonedElsewhereWithPairs();
         othersAreLaunchedThen();
         launchedThoughLost();
         C.finish();
@@ -343,6 +345,60 @@ public final class OutputEdgesTest {
             "seal 1",
             "outputs 1: 16",
             "output 1 15: 77");
+    }
+
+    private static void pairsAfterFifteen() {
+        String fifteen = "push 15 pick 0 say push 1 sub pick 0 jumpif 2 drop ";
+        Rows.hold(C, "an agent that has said 15 outputs has pairs like others, at another host, too",
+            "load 0 " + fifteen + "push 1 push 2 pair push 3 push 4 pair pair second second say",
+            "load 1 " + fifteen + "push 1 push 2 pair pick 0 push 9 setfirst first say",
+            "load 2 " + fifteen + "push 1 push 2 pair push 3 push 4 pair pair push 2 go second second say",
+            "load 3 " + fifteen + "push 1 push 2 pair push 3 push 4 pair pair push 2 go first first say",
+            "launch 0 0 200",
+            "launch 0 1 200",
+            "launch 0 2 200",
+            "launch 0 3 200",
+            "expectedOutput 0 15: 4",
+            "expectedOutput 1 15: 9",
+            "expectedOutput 2 15: 4",
+            "expectedOutput 3 15: 1",
+            "times 5 step 0 40",
+            "send 0",
+            "net 0 0: 1",
+            "net 0 0: 0",
+            "agent 2 2 6: 3",
+            "step 2 9",
+            "seal 2",
+            "output 0 15: 4",
+            "output 1 15: 9",
+            "output 2 15: 4",
+            "output 3 15: 1");
+        Rows.hold(C, "its child is run likewise from there, after 15 outputs and a hop",
+            "load 0 " + fifteen + "push 3 go push 9 clone drop table 0 say",
+            "table 3 0 33",
+            "launch 0 0 200",
+            "expected 0: 16",
+            "expectedOutput 0 15: 33",
+            "expected 4: 1",
+            "expectedOutput 4 0: 33");
+    }
+
+    private static void clonedElsewhereWithPairs() {
+        for (int pairs = 0; pairs <= 8; pairs++) {
+            StringBuilder program = new StringBuilder("load 0 push 0 ");
+            for (int i = 0; i < pairs; i++) {
+                program.append("push 1 pair ");
+            }
+            Rows.hold(C, "its child is run likewise from there, which is not where it was launched: " + pairs + " pairs",
+                program + "push 3 go push 9 clone drop table 0 say end push 1 say",
+                "table 0 0 11",
+                "table 3 0 33",
+                "launch 0 0 200",
+                "expected 0: 1",
+                "expectedOutput 0 0: 33",
+                "expected 4: 1",
+                "expectedOutput 4 0: 33");
+        }
     }
 
     private static void othersAreLaunchedThen() {
